@@ -310,8 +310,7 @@ public final class SaturdaySale {
         if (refusal != 0) {
             return LOST + refusal;
         }
-        otherTable.askByRule(boyRule, sale.priceCount);
-        otherTable.fillAsked(sale);
+        findBoy();
         return partOf(otherTable.means[0][sale.coats], sale.scale(sale.days), part);
     }
 
@@ -321,15 +320,17 @@ public final class SaturdaySale {
             return refusal;
         }
         findBest();
-        otherTable.askByRule(boyRule, sale.priceCount);
-        otherTable.fillAsked(sale);
-        int worst = 1;
+        findBoy();
+        int coats = 1;
+        long dearest = bestTable.means[0][1] - otherTable.means[0][1];
         for (int n = 2; n <= MOST_COATS; n++) {
-            if (bestTable.means[0][n] - otherTable.means[0][n] > bestTable.means[0][worst] - otherTable.means[0][worst]) {
-                worst = n;
+            long costs = bestTable.means[0][n] - otherTable.means[0][n];
+            if (costs > dearest) {
+                dearest = costs;
+                coats = n;
             }
         }
-        return worst;
+        return coats;
     }
 
     public int edge(int sort) {
@@ -449,6 +450,12 @@ public final class SaturdaySale {
             changed = falling.advance(sale.days, sale.priceCount);
         }
         metEdition = sale.edition;
+    }
+
+    /** Not kept between calls, as the other table serves rather and edge, too. */
+    private void findBoy() {
+        otherTable.askByRule(boyRule, sale.priceCount);
+        otherTable.fillAsked(sale);
     }
 
     /** KEPT (0), ONCE (1), MET BEST (2). */
@@ -708,14 +715,13 @@ public final class SaturdaySale {
         private void passBuyer(int day, int chance, int paid) {
             long[] row = odds[day + 1];
             long sold = 0;
+            row[0] *= SURE;
             for (int n = 1; n <= MOST_COATS; n++) {
-                sold += row[n] * chance;
+                long bought = row[n] * chance;
+                sold += bought;
+                row[n - 1] += bought;
+                row[n] = row[n] * SURE - bought;
             }
-            row[0] = row[0] * SURE + row[1] * chance;
-            for (int n = 1; n < MOST_COATS; n++) {
-                row[n] = row[n] * (SURE - chance) + row[n + 1] * chance;
-            }
-            row[MOST_COATS] *= SURE - chance;
             takings[day + 1] = takings[day + 1] * SURE + sold * paid;
         }
     }

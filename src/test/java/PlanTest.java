@@ -14,7 +14,9 @@ public final class PlanTest {
         best();
         bestTakesTheHighestOfLikePrices();
         state();
+        noDip();
         dip();
+        dipsInOrder();
         changesAreSeen();
         DUE.end();
     }
@@ -128,11 +130,7 @@ public final class PlanTest {
             x.sort(3, 99, 0);
         }
         long all = 1L << 36;
-        long power = 1;
-        for (int i = 0; i < 18; i++) {
-            power *= 1;
-        }
-        DUE.fraction("12 left", x.left(12, 0), x.left(12, 1), power, all);
+        DUE.fraction("12 left", x.left(12, 0), x.left(12, 1), 1, all);
         DUE.fraction("11 left", x.left(11, 0), x.left(11, 1), 27, all >> 1);
         long sum = 0;
         for (int n = 0; n <= 12; n++) {
@@ -207,15 +205,12 @@ public final class PlanTest {
         DUE.fraction("last day of 4", x.state(3, 1, 0), x.state(3, 1, 1), 71, 4);
     }
 
-    /**
-     * A sure buyer at 20 and two sure ones at 10, one day: with one coat 20 is best, with two 10 is
-     * like 20 (20 is taken), with three 10 is best; no dip. A dip needs the rest: 9 a coat and
-     * chances of a half at 20 and of a sure one at 19.
-     */
-    private static void dip() {
+    /** A sure buyer at 20 and two sure ones at 10, one day: the more coats, the lower the price. */
+    private static void noDip() {
         SaturdaySale x = new SaturdaySale();
         DUE.is("no prices", x.dip(0), -3);
         DUE.is("no prices, how many", x.dip(-1), -3);
+        DUE.is("no prices, below", x.dip(-2), -3);
         x.set(1, 1);
         x.price(20);
         x.price(10);
@@ -230,6 +225,61 @@ public final class PlanTest {
         DUE.is("far", x.dip(Integer.MAX_VALUE), -6);
         DUE.is("below", x.dip(-2), -6);
         DUE.is("far below", x.dip(Integer.MIN_VALUE), -6);
+    }
+
+    /**
+     * Sure buyers to whom it is worth 93, 49, 30 on day 0 and 82, 30, 30 on day 1. Day 1 brings 65
+     * with one coat or two (at 65) and 78 with more (at 26). On day 0 with 3 coats 85 brings 85 and
+     * 65, but 44 brings 88 and 65; with 4 coats 85 brings 85 and 78, and 44 still 88 and 65.
+     */
+    private static void dip() {
+        SaturdaySale x = new SaturdaySale();
+        x.set(1, 2);
+        x.price(85);
+        x.price(65);
+        x.price(44);
+        x.price(26);
+        x.sort(4, 93, 11);
+        x.sort(4, 49, 19);
+        x.sort(4, 30, 0);
+        DUE.is("best with 3", x.best(0, 3), 2);
+        DUE.is("best with 4", x.best(0, 4), 0);
+        DUE.fraction("state with 3", x.state(0, 3, 0), x.state(0, 3, 1), 153, 1);
+        DUE.fraction("state with 4", x.state(0, 4, 0), x.state(0, 4, 1), 163, 1);
+        DUE.is("how many", x.dip(-1), 1);
+        DUE.is("first", x.dip(0), 3);
+        DUE.is("second", x.dip(1), -6);
+        x.set(0, 3);
+        DUE.is("how many, with 3 coats in all", x.dip(-1), 0);
+        x.set(0, 4);
+        x.set(1, 1);
+        DUE.is("how many, with one day", x.dip(-1), 0);
+    }
+
+    /** Each dip is one by best's prices, and they come by days, then by coats. */
+    private static void dipsInOrder() {
+        SaturdaySale x = new SaturdaySale();
+        x.set(0, 12);
+        x.set(1, 6);
+        int[] prices = {65, 64, 63, 44, 26};
+        for (int v : prices) {
+            x.price(v);
+        }
+        x.sort(4, 88, 14);
+        x.sort(4, 31, 0);
+        x.sort(4, 47, 0);
+        int count = 0;
+        for (int day = 0; day < 6; day++) {
+            for (int n = 1; n < 12; n++) {
+                if (prices[x.best(day, n)] < prices[x.best(day, n + 1)]) {
+                    DUE.is("dip " + count, x.dip(count), 100 * day + n);
+                    count++;
+                }
+            }
+        }
+        DUE.is("how many", x.dip(-1), count);
+        DUE.is("more than one, on more days than one", count > 1 && x.dip(count - 1) >= 100 ? 1 : 0, 1);
+        DUE.is("behind the last", x.dip(count), -6);
     }
 
     /** What was found once must not be told again after a change. */
