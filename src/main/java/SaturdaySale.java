@@ -474,12 +474,16 @@ public final class SaturdaySale {
             walk.goWaiting(sale, planned);
             return walk.mean(sale);
         }
+        if (what == 2) {
+            findMet();
+            return metPlan.mean;
+        }
+        findKept();
         if (what == 3) {
             findBest();
-            findKept();
             return bestTable.means[0][sale.coats] - keptPlan.mean;
         }
-        return promised(what).mean;
+        return what == 1 ? oncePlan.mean : keptPlan.mean;
     }
 
     /** Whether the best price of the beginning is another one if the chance of a sort is as given. */
@@ -524,7 +528,8 @@ public final class SaturdaySale {
         }
 
         int worthOn(int number, int day) {
-            return Math.max(0, worths[number] - falls[number] * day);
+            int worth = worths[number] - falls[number] * day;
+            return worth > 0 ? worth : 0;
         }
 
         /** The chance that a buyer of a sort who does not wait would take a coat on a day. */
